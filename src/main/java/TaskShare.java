@@ -197,7 +197,9 @@ public final class TaskShare {
 
     public int order(int person, int i) throws NoSuchElementException, IllegalArgumentException {
         Person who = personOf(person);
-        needWithin(i, 0, Integer.MAX_VALUE);
+        if (i < 0) {
+            throw new IllegalArgumentException("i is below 0");
+        }
         return plannedTask(who.number, i);
     }
 
@@ -526,7 +528,7 @@ public final class TaskShare {
      */
     private static final class ExactPlanner {
         private static final int SETS = 1 << MOST_EXACT;
-        private static final int CANNOT = Integer.MAX_VALUE;
+        private static final int CANNOT = 1000000000;
         private static final int NOBODY = MOST_PERSONS;
         private static final int[] PLACE_VALUES = {625, 125, 25, 5, 1};
         private static final long ALL_PLACES = 3125;
@@ -639,9 +641,9 @@ public final class TaskShare {
         private void chooseFrom(int person, int set) {
             long best = ranks[person + 1][set];
             int taken = 0;
-            for (int part = set; part > 0; part = (part - 1) & set) {
+            for (int part = 1; part <= set; part++) {
                 int late = lateness[person][part];
-                if (late != CANNOT) {
+                if ((part & set) == part && late != CANNOT) {
                     long sum = rank(late, person, part) + ranks[person + 1][set ^ part];
                     if (sum < best) {
                         best = sum;

@@ -15,6 +15,7 @@ public final class PlanTest {
     public static void main(String[] args) {
         for (int seed = 0; seed < 3000; seed++) {
             new PlanTest(seed).play(seed % 2 == 0);
+            new PlanTest(seed).playAtTheLastTime();
         }
         Calls.end();
     }
@@ -45,6 +46,20 @@ public final class PlanTest {
         int open = model.count(2);
         drawTasks(exact ? Math.max(0, 5 - random.nextInt(2) - open) : 6 + random.nextInt(8), close);
         both("refuse(" + random.nextInt(persons) + ", " + random.nextInt(6) + ")");
+        both("assign(5)");
+        comparePlan(persons);
+    }
+
+    /** A task that ends at 100000 may be as late as one that has nothing: the persons alone decide then. */
+    private void playAtTheLastTime() {
+        both("pass(" + (99997 + random.nextInt(3)) + ")");
+        int persons = 1 + random.nextInt(4);
+        for (int person = 0; person < persons; person++) {
+            both("person(" + random.nextInt(32) + ", 0, 100000, 0)");
+        }
+        for (int task = 0; task < 5; task++) {
+            both("task(" + random.nextInt(5) + ", " + (1 + random.nextInt(2)) + ", " + random.nextInt(2) + ", 0)");
+        }
         both("assign(5)");
         comparePlan(persons);
     }

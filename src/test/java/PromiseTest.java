@@ -158,6 +158,14 @@ public final class PromiseTest {
         Calls.run("9 assign, a task that is 100000 late is planned all the same",
                 "person(1, 0, 100000, 0) = 0", "pass(99999) = ok", "task(0, 1, 0, 0) = 0", "task(0, 1, 0, 0) = 1",
                 "assign(5) = 200000", "told(0, 1) = 0", "told(0, 2) = 99999", "told(1, 1) = -1");
+        Calls.run("9 assign, a low person for a low task, though a later one has nothing then",
+                "person(3, 0, 100000, 0) = 0", "person(1, 0, 100000, 0) = 1", "pass(99999) = ok",
+                "task(7, 1, 0, 0) = 0", "task(7, 1, 0, 0) = 1", "task(7, 1, 0, 0) = 2",
+                "task(0, 1, 0, 0) = 3", "task(1, 1, 0, 0) = 4", "assign(5) = 500000",
+                "told(3, 1) = 0", "told(4, 1) = -1");
+        Calls.run("9 assign, the lesser starts of low tasks at equal lateness",
+                "person(1, 0, 100, 0) = 0", "task(0, 5, 0, 0) = 0", "task(0, 5, 0, 0) = 1", "task(0, 5, 50, 0) = 2",
+                "assign(5) = 15", "told(0, 2) = 0", "told(1, 2) = 5", "told(2, 2) = 10");
         Calls.run("9 assign, a way by another zone is shorter",
                 "person(1, 0, 100, 0) = 0", "way(0, 1, 1) = ok", "way(1, 2, 1) = ok", "way(0, 2, 91) = ok",
                 "task(0, 1, 0, 1) = 0", "task(0, 10, 0, 2) = 1", "bar(0, 1) = 4", "bound() = 100002",
