@@ -1,48 +1,55 @@
 import java.util.Random;
 
-/** Long runs of drawn calls (from fixed seeds), each answer against the plain model's. */
+/** All the calls of an object, drawn from fixed seeds, each answer against the plain model's. */
 public final class ModelTest {
     private static final int[] ODD = {-1, Integer.MIN_VALUE, Integer.MAX_VALUE, 100000, 100001, 256, 255, 16, 8, 7, 5, 4, 0};
     private final Random random;
+    private final TaskShare share = new TaskShare();
+    private final Model model = new Model();
+    private final String name;
     private final int span;
+    private int made = 0;
     private int now = 0;
 
     private ModelTest(long seed) {
         random = new Random(seed);
+        name = "seed " + seed;
         span = new int[] {12, 40, 120, 100000}[random.nextInt(4)];
     }
 
     public static void main(String[] args) {
         for (int seed = 0; seed < 1200; seed++) {
-            new ModelTest(seed).compare(seed, seed % 40 == 0 ? 512 : 150);
+            new ModelTest(seed).play(seed % 3 != 0);
         }
         Calls.end();
     }
 
-    private void compare(int seed, int calls) {
-        TaskShare share = new TaskShare();
-        Model model = new Model();
-        for (int i = 0; i < calls; i++) {
+    private void play(boolean wholePlans) {
+        int longestLook = wholePlans ? 1 + 2 * 16 : 1;
+        while (made + longestLook <= Calls.MOST_OF_ONE_OBJECT) {
             String call = random.nextInt(40) == 0 ? oddCall() : call();
-            String want = Calls.answer(model, call);
-            Calls.due("seed " + seed + ", call " + i + ": " + call, Calls.answer(share, call), want);
-            if (call.startsWith("pass") && want.equals("ok")) {
+            String answer = both(call);
+            if (call.startsWith("pass") && answer.equals("ok")) {
                 now = Integer.parseInt(call.substring(5, call.length() - 1));
             }
-            if (call.startsWith("assign")) {
-                comparePlans(seed, i, share, model);
+            if (call.startsWith("assign") && wholePlans) {
+                comparePlans();
             }
         }
     }
 
-    private static void comparePlans(int seed, int i, TaskShare share, Model model) {
+    private void comparePlans() {
         for (int task = 0; task < model.whats.size(); task++) {
-            for (int what = 1; what <= 2; what++) {
-                String call = "told(" + task + ", " + what + ")";
-                Calls.due("seed " + seed + ", behind call " + i + ": " + call,
-                        Calls.answer(share, call), Calls.answer(model, call));
-            }
+            both("told(" + task + ", 1)");
+            both("told(" + task + ", 2)");
         }
+    }
+
+    private String both(String call) {
+        String want = Calls.answer(model, call);
+        Calls.due(name + ", call " + made + ": " + call, Calls.answer(share, call), want);
+        made++;
+        return want;
     }
 
     private int upTo(int most) {

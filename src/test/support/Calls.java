@@ -5,6 +5,8 @@ import java.util.Map;
 
 /** Makes calls that are written as text, and counts the answers that are not as due. */
 final class Calls {
+    /** What a later call answers is free. */
+    static final int MOST_OF_ONE_OBJECT = 512;
     private static final Map<String, Method> METHODS = new HashMap<>();
     private static int made = 0;
     private static int wrong = 0;
@@ -41,10 +43,17 @@ final class Calls {
 
     /** Rows like "person(1, 0, 10, 0) = 0", made on one new object. */
     static void run(String name, String... rows) {
+        needFew(rows.length);
         TaskShare share = new TaskShare();
         for (int i = 0; i < rows.length; i++) {
             String[] row = rows[i].split(" = ");
             due(name + ", row " + (i + 1) + ": " + row[0], answer(share, row[0]), row[1].trim());
+        }
+    }
+
+    static void needFew(int calls) {
+        if (calls > MOST_OF_ONE_OBJECT) {
+            throw new IllegalStateException("more calls than an object is used for");
         }
     }
 
