@@ -50,6 +50,9 @@ public final class RangeTest {
         numbers("3 rest, it ends within the hours", scene, "rest(0, 10, #)", 10, 50, RANGE);
         numbers("3 rest, it begins no later than it ends", scene, "rest(0, #, 30)", 10, 30, RANGE);
         numbers("3 rest, it ends no earlier than it begins", scene, "rest(0, 30, #)", 30, 50, RANGE);
+        List<String> rested = Scenes.with(Scenes.ONE_OF_EACH, "rest(0, 20, 30)", "assign(5)");
+        numbers("3 rest, instead of another one", rested, "rest(0, 12, #)", 12, 50, RANGE);
+        numbers("3 rest, instead of another one", rested, "rest(0, #, 45)", 10, 45, RANGE);
         numbers("3 rest, the hours are a person's own", Scenes.BUSY, "rest(1, #, 1000)", 5, 1000, RANGE);
         List<String> widest = List.of("person(1, 0, 100000, 0)", "task(0, 5, 20, 0)");
         numbers("3 rest, in the longest hours", widest, "rest(0, 0, #)", 0, 100000, RANGE);
