@@ -24,6 +24,7 @@ public final class TermsTest {
         lateness();
         exactForSoMany();
         exactTies();
+        exactTiesOfFew();
         byRule();
         byRuleTies();
         Calls.end();
@@ -318,6 +319,30 @@ public final class TermsTest {
         Calls.run("of such ones by the starts of tasks, the second one's too",
                 "person(1, 0, 100, 0) = 0", "task(0, 9, 9, 0) = 0", "task(0, 5, 90, 0) = 1", "task(0, 2, 90, 0) = 2",
                 "assign(5) = 0", "told(0, 2) = 0", "told(1, 2) = 9", "told(2, 2) = 14");
+    }
+
+    /**
+     * Person 0 does either the first of the tasks that can be done, and all the later ones have nothing, or the
+     * later ones, and person 1 does the first just so much later that both plans are equally late.
+     */
+    private static void exactTiesOfFew() {
+        for (int later = 1; later <= 4; later++) {
+            int first = 4 - later;
+            int ends = 99000 + later * (later - 1) / 2;
+            List<String> rows = new ArrayList<>(List.of("person(3, " + (99000 - later) + ", 100000, 0) = 0",
+                    "person(1, " + (ends - later) + ", " + ends + ", 1) = 1", "way(0, 2, 1000) = ok", "way(1, 2, 1000) = ok"));
+            for (int task = 0; task < first; task++) {
+                rows.add("task(7, 1, 0, 0) = " + task);
+            }
+            rows.add("task(0, " + later + ", 0, 1) = " + first);
+            for (int task = first + 1; task < 5; task++) {
+                rows.add("task(1, 1, 0, 2) = " + task);
+            }
+            rows.addAll(List.of("assign(5) = 499000", "told(" + first + ", 1) = 0", "count(5) = 4",
+                    "told(4, 1) = -1", "refuse(0, " + first + ") = true", "assign(5) = 499000",
+                    "told(" + first + ", 1) = 1", "told(" + (first + 1) + ", 1) = 0"));
+            Calls.run("the person of a low task comes before those of " + later + " later ones", rows.toArray(new String[0]));
+        }
     }
 
     private static void byRule() {
