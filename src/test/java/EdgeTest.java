@@ -12,6 +12,7 @@ public final class EdgeTest {
     public static void main(String[] args) {
         newObject();
         person();
+        plansStay();
         rest();
         train();
         task();
@@ -59,6 +60,28 @@ public final class EdgeTest {
         Calls.run("2 a person whose hours are over, or who comes in the midst of a plan",
                 "pass(50) = ok", "person(1, 0, 50, 0) = 0", "task(0, 1, 99, 0) = 0", "bar(0, 0) = 4", "assign(5) = 100000",
                 "person(1, 0, 51, 0) = 1", "told(0, 1) = -1", "bar(1, 0) = 0", "assign(5) = 0", "told(0, 1) = 1");
+    }
+
+    /** What is planned stays so until it is planned anew, refused or given, or its person leaves. */
+    private static void plansStay() {
+        String[][] calls = {
+            {"2 person", "person(255, 0, 100, 0) = 2"}, {"3 rest", "rest(0, 0, 90) = ok"}, {"4 train", "train(1, 0) = 2"},
+            {"5 task", "task(0, 1, 0, 0) = 3"}, {"6 way", "way(0, 1, 1000) = ok"}, {"7 refuse", "refuse(1, 0) = false"},
+            {"7 refuse", "refuse(0, 2) = false"}, {"12 give", "give(1) = 2"}, {"14 leaves", "leaves(1) = 1"},
+            {"16 pass", "pass(100000) = ok"},
+        };
+        for (String[] call : calls) {
+            Calls.run(call[0] + " alters no plan of another",
+                    "person(1, 0, 100, 0) = 0", "person(2, 0, 100, 0) = 1", "way(0, 1, 10) = ok", "task(0, 5, 15, 1) = 0",
+                    "task(0, 5, 20, 1) = 1", "task(1, 5, 5, 0) = 2", "assign(5) = 0", call[1], "told(0, 0) = 0",
+                    "told(0, 1) = 0", "told(0, 2) = 10", "told(1, 0) = 0", "told(1, 1) = 0", "told(1, 2) = 15",
+                    "exact() = true", "order(0, 0) = 0", "order(0, 1) = 1", "order(0, 2) = -1", "known(0, 5) = 2");
+        }
+        Calls.run("12 give and 13 done alter none of the other plans of their own",
+                "person(1, 0, 100, 0) = 0", "task(0, 5, 5, 0) = 0", "task(0, 5, 10, 0) = 1", "task(0, 5, 15, 0) = 2",
+                "assign(5) = 0", "pass(7) = ok", "give(0) = 0", "told(1, 2) = 5", "told(2, 2) = 10", "pass(30) = ok",
+                "done(0) = 1", "told(1, 1) = 0", "told(1, 2) = 5", "told(2, 1) = 0", "told(2, 2) = 10", "count(7) = 0",
+                "exact() = true");
     }
 
     private static void rest() {

@@ -25,6 +25,7 @@ public final class TermsTest {
         exactForSoMany();
         exactTies();
         exactTiesOfFew();
+        onePersonEach();
         byRule();
         byRuleTies();
         Calls.end();
@@ -309,6 +310,10 @@ public final class TermsTest {
         Calls.run("first by the persons of tasks: the lowest task's person before all",
                 "person(1, 0, 10, 0) = 0", "person(3, 0, 10, 0) = 1", "task(0, 10, 10, 0) = 0", "task(0, 10, 10, 0) = 1",
                 "task(1, 10, 10, 0) = 2", "assign(5) = 100000", "told(0, 1) = 0", "told(1, 1) = 1", "told(2, 1) = -1");
+        Calls.run("first by the persons of tasks: the lowest one for a later task too, though an earlier one has a higher",
+                "person(0, 0, 100, 0) = 0", "person(2, 0, 100, 0) = 1", "person(3, 0, 100, 0) = 2",
+                "person(3, 0, 100, 0) = 3", "task(0, 5, 50, 0) = 0", "task(1, 5, 50, 0) = 1", "task(0, 5, 50, 0) = 2",
+                "assign(5) = 0", "told(0, 1) = 2", "told(1, 1) = 1", "told(2, 1) = 2");
         Calls.run("first by the persons of tasks: nothing behind all",
                 "person(0, 0, 100000, 0) = 0", "person(0, 0, 100000, 0) = 1", "person(0, 0, 100000, 0) = 2",
                 "person(1, 0, 100000, 0) = 3", "pass(99999) = ok", "task(0, 1, 0, 0) = 0", "task(0, 1, 0, 0) = 1",
@@ -345,6 +350,17 @@ public final class TermsTest {
         }
     }
 
+    /** By way of task 0 persons 0 and 1 would both come sooner to tasks 2 and 1, which they alone can do. */
+    private static void onePersonEach() {
+        Calls.run("A PLAN gives each open task a person: one, though two would be glad of it",
+                "person(3, 0, 2000, 0) = 0", "person(5, 0, 2000, 0) = 1", "person(1, 0, 2000, 0) = 2", "way(0, 1, 1) = ok",
+                "way(1, 2, 1) = ok", "way(1, 3, 1) = ok", "way(0, 2, 1000) = ok", "way(0, 3, 1000) = ok",
+                "task(0, 1, 2000, 1) = 0", "task(2, 1, 10, 3) = 1", "task(1, 1, 10, 2) = 2", "assign(5) = 991",
+                "told(0, 1) = 0", "told(0, 2) = 1", "told(1, 1) = 1", "told(1, 2) = 1000", "told(2, 1) = 0",
+                "told(2, 2) = 3", "refuse(0, 0) = true", "assign(5) = 991", "told(0, 1) = 1", "told(1, 2) = 3",
+                "told(2, 2) = 1000");
+    }
+
     private static void byRule() {
         Calls.run("BY RULE: open tasks by due, of equal ones by number",
                 "person(1, 0, 100, 0) = 0", "task(0, 1, 9, 0) = 0", "task(0, 2, 8, 0) = 1", "task(0, 3, 9, 0) = 2",
@@ -375,6 +391,7 @@ public final class TermsTest {
         Calls.run("of equal ones to the one with the fewest tasks: begun",
                 "person(3, 0, 100, 0) = 0", "person(1, 0, 100, 0) = 1", "task(1, 5, 5, 0) = 0", "assign(0) = 0",
                 "give(0) = 0", "pass(5) = ok", "task(0, 5, 10, 0) = 1", "assign(0) = 0", "told(1, 1) = 1");
+        byRuleEqualTasks();
         Calls.run("then to the lowest",
                 "person(2, 0, 100, 0) = 0", "person(1, 0, 100, 0) = 1", "person(1, 0, 100, 0) = 2",
                 "person(1, 0, 100, 0) = 3", "task(0, 5, 5, 0) = 0", "task(0, 5, 5, 0) = 1", "task(0, 5, 5, 0) = 2",
@@ -383,5 +400,22 @@ public final class TermsTest {
         Calls.run("tasks that had been planned before do not count",
                 "person(3, 0, 100, 0) = 0", "person(1, 0, 100, 0) = 1", "task(1, 5, 90, 0) = 0", "assign(0) = 0",
                 "told(0, 1) = 0", "task(0, 5, 80, 0) = 1", "assign(0) = 0", "told(1, 1) = 0", "told(0, 2) = 5");
+    }
+
+    /** One has a task begun or done and the other one planned so far, both can begin the next one at 10. */
+    private static void byRuleEqualTasks() {
+        for (int busy = 0; busy < 2; busy++) {
+            int other = 1 - busy;
+            String first = "person(" + (busy == 0 ? 3 : 5) + ", 0, 100, 0) = 0";
+            String second = "person(" + (busy == 0 ? 5 : 3) + ", 0, 100, 0) = 1";
+            Calls.run("of equal ones: a task begun counts as much as one planned",
+                    first, second, "task(1, 10, 10, 0) = 0", "assign(0) = 0", "give(" + busy + ") = 0",
+                    "task(2, 10, 10, 0) = 1", "task(0, 5, 15, 0) = 2", "assign(0) = 0", "told(1, 1) = " + other,
+                    "told(2, 1) = 0", "told(2, 2) = 10");
+            Calls.run("of equal ones: a task done counts as much as one planned",
+                    first, second, "task(1, 5, 5, 0) = 0", "assign(0) = 0", "give(" + busy + ") = 0",
+                    "pass(5) = ok", "done(" + busy + ") = 1", "rest(" + busy + ", 5, 10) = ok", "task(2, 5, 10, 0) = 1",
+                    "task(0, 5, 15, 0) = 2", "assign(0) = 0", "told(1, 1) = " + other, "told(2, 1) = 0", "told(2, 2) = 10");
+        }
     }
 }

@@ -17,9 +17,20 @@ final class Probes {
     /** The call is refused so, and an object on which it was made answers like one on which it was not. */
     static void refused(String name, List<String> scene, String call, String refusal) {
         Calls.due(name + ": " + call, answers(new TaskShare(), scene, List.of(call)).get(0), refusal);
+        changesNothing(name, scene, call);
+    }
+
+    /** The answer is the plain model's, and an object that was asked answers like one that was not. */
+    static void asked(String name, List<String> scene, String question) {
+        compare(name, List.of(question), answers(new TaskShare(), scene, List.of(question)),
+                answers(new Model(), scene, List.of(question)));
+        changesNothing(name, scene, question);
+    }
+
+    private static void changesNothing(String name, List<String> scene, String call) {
         for (List<String> run : RUNS) {
             List<String> longer = Scenes.with(scene, call);
-            compare(name + ", behind the refused " + call, run,
+            compare(name + ", behind " + call, run,
                     answers(new TaskShare(), longer, run), answers(new TaskShare(), scene, run));
         }
     }
