@@ -1,6 +1,6 @@
 import java.util.Random;
 
-/** Drawn scenes with close numbers, so that plans tie: the whole plan and the bars against the plain model's. */
+/** Drawn scenes, most with close numbers, so that plans tie: the whole plan and the bars against the plain model's. */
 public final class PlanTest {
     private final Random random;
     private final TaskShare share = new TaskShare();
@@ -16,6 +16,9 @@ public final class PlanTest {
         for (int seed = 0; seed < 3000; seed++) {
             new PlanTest(seed).play(seed % 2 == 0);
             new PlanTest(seed).playAtTheLastTime();
+            if (seed % 2 == 0) {
+                new PlanTest(seed).playByOtherZones();
+            }
         }
         Calls.end();
     }
@@ -62,6 +65,24 @@ public final class PlanTest {
         }
         both("assign(5)");
         comparePlan(persons);
+    }
+
+    /** Ways are either short or long, so that it pays to come by another zone, for more than one person at once. */
+    private void playByOtherZones() {
+        for (int zone = 0; zone < 3; zone++) {
+            for (int other = zone + 1; other < 4; other++) {
+                both("way(" + zone + ", " + other + ", " + (random.nextInt(3) == 0 ? 1000 : random.nextInt(3)) + ")");
+            }
+        }
+        for (int person = 0; person < 4; person++) {
+            both("person(" + (1 + random.nextInt(16) * 2) + ", 0, 9000, " + random.nextInt(2) + ")");
+        }
+        for (int task = 0; task < 5; task++) {
+            int skill = random.nextInt(3) == 0 ? 0 : 1 + random.nextInt(4);
+            both("task(" + skill + ", 1, " + random.nextInt(12) + ", " + random.nextInt(4) + ")");
+        }
+        both("assign(5)");
+        comparePlan(4);
     }
 
     private void drawPerson(int person, int close) {

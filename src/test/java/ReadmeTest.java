@@ -100,7 +100,7 @@ public final class ReadmeTest {
             files.forEach(file -> there.add(file.getFileName().toString().replace(".java", "")));
         }
         need(found(readme, "`(\\w+Test)`").equals(there), "the tests that are told are those that are there: " + there);
-        for (String path : found(readme, "`((?:src|\\.\\./shared|\\.ci)/[\\w./]+)`")) {
+        for (String path : found(readme, "`((?:src|\\.ci)/[\\w./]+)`")) {
             need(Files.exists(Path.of(path)), path + " is there");
         }
     }

@@ -23,7 +23,9 @@ public final class TermsTest {
         endOfHours();
         lateness();
         exactForSoMany();
+        exactOfAllTogether();
         exactTies();
+        exactTiesOfStarts();
         exactTiesOfFew();
         onePersonEach();
         byRule();
@@ -234,6 +236,12 @@ public final class TermsTest {
                     "task(0, 6, 11, 1) = 1", "task(0, 2, 20, 2) = 2", "task(0, 2, 29, 1) = 3", "assign(" + most + ") = 0",
                     "told(0, 2) = 1", "told(1, 2) = 5", "told(2, 2) = 18", "told(3, 2) = 27", "order(0, 0) = 0",
                     "order(0, 1) = 1", "order(0, 2) = 2", "order(0, 3) = 3", "order(0, 4) = -1");
+            Calls.run("before each the way from the zone of the one before is walked: five of them",
+                    "person(1, 0, 100, 0) = 0", "way(0, 1, 1) = ok", "way(1, 2, 2) = ok", "way(2, 3, 3) = ok",
+                    "way(3, 0, 4) = ok", "way(0, 2, 9) = ok", "way(1, 3, 9) = ok", "task(0, 1, 2, 1) = 0",
+                    "task(0, 1, 5, 2) = 1", "task(0, 1, 9, 3) = 2", "task(0, 1, 14, 0) = 3", "task(0, 1, 16, 1) = 4",
+                    "assign(" + most + ") = 0", "told(0, 2) = 1", "told(1, 2) = 4", "told(2, 2) = 8", "told(3, 2) = 13",
+                    "told(4, 2) = 15");
         }
     }
 
@@ -302,6 +310,30 @@ public final class TermsTest {
         return late;
     }
 
+    /** Task 0 first would be best for tasks 0 and 1 alone, but task 2 is far from where task 1 ends. */
+    private static void exactOfAllTogether() {
+        Calls.run("EXACT: the least lateness of all together, not of the first ones",
+                "person(1, 0, 2000, 0) = 0", "way(1, 2, 5) = ok", "way(2, 3, 1000) = ok", "way(0, 3, 1000) = ok",
+                "task(0, 10, 10, 1) = 0", "task(0, 10, 25, 2) = 1", "assign(5) = 0", "told(0, 2) = 0", "told(1, 2) = 15",
+                "task(0, 10, 35, 3) = 2", "assign(5) = 15", "told(1, 2) = 0", "told(0, 2) = 15", "told(2, 2) = 25");
+    }
+
+    /** One short task has room before the break; the long ones come behind it in either case. */
+    private static void exactTiesOfStarts() {
+        for (int shortOne = 0; shortOne < 5; shortOne++) {
+            List<String> rows = new ArrayList<>(List.of("person(1, 0, 100, 0) = 0", "rest(0, 10, 20) = ok"));
+            for (int task = 0; task < 5; task++) {
+                rows.add("task(0, " + (task == shortOne ? 1 : 11) + ", 100, 0) = " + task);
+            }
+            rows.add("assign(5) = 0");
+            for (int task = 0; task < 5; task++) {
+                int longBefore = task < shortOne ? task : task - 1;
+                rows.add("told(" + task + ", 2) = " + (task == shortOne ? 0 : 20 + 11 * longBefore));
+            }
+            Calls.run("of such ones by the starts of tasks: that of task " + shortOne + " too", rows.toArray(new String[0]));
+        }
+    }
+
     private static void exactTies() {
         Calls.run("first by the persons of tasks: the lowest person first",
                 "person(1, 0, 100, 0) = 0", "person(1, 0, 100, 0) = 1", "task(0, 5, 5, 0) = 0", "task(0, 5, 5, 0) = 1",
@@ -350,15 +382,15 @@ public final class TermsTest {
         }
     }
 
-    /** By way of task 0 persons 0 and 1 would both come sooner to tasks 2 and 1, which they alone can do. */
+    /** By way of task 0 persons 0 and 1 would both come sooner to tasks 3 and 2, which they alone can do. */
     private static void onePersonEach() {
         Calls.run("A PLAN gives each open task a person: one, though two would be glad of it",
-                "person(3, 0, 2000, 0) = 0", "person(5, 0, 2000, 0) = 1", "person(1, 0, 2000, 0) = 2", "way(0, 1, 1) = ok",
+                "person(3, 0, 2000, 0) = 0", "person(5, 0, 2000, 0) = 1", "person(9, 0, 2000, 0) = 2", "way(0, 1, 1) = ok",
                 "way(1, 2, 1) = ok", "way(1, 3, 1) = ok", "way(0, 2, 1000) = ok", "way(0, 3, 1000) = ok",
-                "task(0, 1, 2000, 1) = 0", "task(2, 1, 10, 3) = 1", "task(1, 1, 10, 2) = 2", "assign(5) = 991",
-                "told(0, 1) = 0", "told(0, 2) = 1", "told(1, 1) = 1", "told(1, 2) = 1000", "told(2, 1) = 0",
-                "told(2, 2) = 3", "refuse(0, 0) = true", "assign(5) = 991", "told(0, 1) = 1", "told(1, 2) = 3",
-                "told(2, 2) = 1000");
+                "task(0, 1, 2000, 1) = 0", "task(3, 1, 2000, 0) = 1", "task(2, 1, 10, 3) = 2", "task(1, 1, 10, 2) = 3",
+                "assign(5) = 991", "told(0, 1) = 0", "told(0, 2) = 1", "told(1, 1) = 2", "told(1, 2) = 0",
+                "told(2, 1) = 1", "told(2, 2) = 1000", "told(3, 1) = 0", "told(3, 2) = 3",
+                "refuse(0, 0) = true", "assign(5) = 991", "told(0, 1) = 1", "told(2, 2) = 3", "told(3, 2) = 1000");
     }
 
     private static void byRule() {
